@@ -1,5 +1,3 @@
-import java.math.BigInteger;
-
 /** Promises 6, 7 and 17: check digits, good numbers, marks. */
 public final class NumbersTest {
     private static final long LARGEST = 999999999999999999L;
@@ -19,8 +17,14 @@ public final class NumbersTest {
         Due.due("check(1, 0)", x.check(1, 0), 0);
         Due.due("check(0, 1)", x.check(0, 1), 7);
         Due.due("check(1, 1)", x.check(1, 1), 8);
-        Due.due("check(1, 5)", x.check(1, 5), 9);
-        Due.due("check(1, 9)", x.check(1, 9), 1);
+        int[] tripled = {0, 7, 4, 1, 8, 5, 2, 9, 6, 3};
+        int[] doubled = {0, 8, 6, 4, 2, 9, 7, 5, 3, 1};
+        for (int decimal = 0; decimal < 10; decimal++) {
+            Due.due("check(0, " + decimal + ")", x.check(0, decimal), tripled[decimal]);
+            Due.due("check(1, " + decimal + ")", x.check(1, decimal), doubled[decimal]);
+            Due.due("check(0, " + decimal + "0)", x.check(0, decimal * 10), (10 - decimal) % 10);
+            Due.due("check(1, " + decimal + "0)", x.check(1, decimal * 10), (10 - decimal) % 10);
+        }
         Due.due("check(0, 10)", x.check(0, 10), 9);
         Due.due("check(0, 37)", x.check(0, 37), 6);
         Due.due("check(0, EAN-13)", x.check(0, 400638133393L), 1);
@@ -88,27 +92,18 @@ public final class NumbersTest {
         long[] numbers = {0, 1, 2, 99990, 99991, 123456789, 987654321012345678L, LARGEST};
         for (long serial : numbers) {
             for (long key : numbers) {
-                long due = markOf(serial, key);
+                long due = Model.markOf(serial, key);
                 Due.due("mark(" + serial + ", " + key + ")", x.mark(serial, key, due), true);
                 Due.due("mark(" + serial + ", " + key + ") less 1", x.mark(serial, key, due - 1), false);
                 Due.due("mark(" + serial + ", " + key + ") more", x.mark(serial, key, due + 10000), false);
             }
         }
-        Due.due("mark(-1, 0, 0)", x.mark(-1, 0, markOf(-1, 0)), false);
+        Due.due("mark(-1, 0, 0)", x.mark(-1, 0, Model.markOf(-1, 0)), false);
         Due.due("mark(0, -99991, 0)", x.mark(0, -99991, 0), false);
         Due.due("mark(-99991, 0, 0)", x.mark(-99991, 0, 0), false);
-        Due.due("mark(10^18, 0)", x.mark(LARGEST + 1, 0, markOf(LARGEST + 1, 0)), false);
-        Due.due("mark(0, 10^18)", x.mark(0, LARGEST + 1, markOf(0, LARGEST + 1)), false);
+        Due.due("mark(10^18, 0)", x.mark(LARGEST + 1, 0, Model.markOf(LARGEST + 1, 0)), false);
+        Due.due("mark(0, 10^18)", x.mark(0, LARGEST + 1, Model.markOf(0, LARGEST + 1)), false);
         Due.due("mark(0, 0, -10000)", x.mark(0, 0, -10000), false);
         Due.due("mark(MIN..)", x.mark(Long.MIN_VALUE, Long.MIN_VALUE, Long.MIN_VALUE), false);
-    }
-
-    private static long markOf(long serial, long key) {
-        BigInteger m = BigInteger.valueOf(99991);
-        BigInteger s = BigInteger.valueOf(serial).mod(m);
-        BigInteger k = BigInteger.valueOf(key).mod(m);
-        BigInteger left = s.add(k.multiply(BigInteger.valueOf(7)));
-        BigInteger right = s.add(k.multiply(BigInteger.valueOf(13))).add(BigInteger.ONE);
-        return left.multiply(right).mod(BigInteger.valueOf(10000)).longValueExact();
     }
 }

@@ -1,0 +1,159 @@
+import java.lang.reflect.Constructor;
+import java.lang.reflect.Field;
+import java.lang.reflect.Method;
+import java.lang.reflect.Modifier;
+import java.util.Arrays;
+import java.util.Set;
+import java.util.TreeSet;
+
+/** The public face, promise 1, and the rules of LANGUAGE.md that the compiled class shows. */
+public final class FaceTest {
+    private static final String[] FACE = {
+        "int back()", "int check(int, long)", "int clear(int)", "int coupon(int)", "int digit(int)",
+        "int double2(int, int)", "int fraud(int)", "int give(int, long, int, int, long)", "int join(int, int)",
+        "int machine()", "int read()", "int reason()", "long cleared(int)", "long count(int, int)", "long shop(int)",
+        "boolean full(int, boolean)", "boolean good(int, long)", "boolean mark(long, long, long)",
+        "boolean power(int, boolean)", "boolean redeem(int, int)", "boolean shape(int, int, int)",
+        "boolean width(int, int)",
+    };
+
+    public static void main(String[] args) throws Exception {
+        theFaceIsTheDocuments();
+        digitTellsItsException();
+        onlyTheFaceIsSeen();
+        noPrivateMethodIsNamedLikeAPublicOne();
+        staticFieldsAreFinal();
+        aNewObjectHasNothing();
+        objectsAreApart();
+        Due.end("FaceTest");
+    }
+
+    private static void theFaceIsTheDocuments() {
+        Set<String> found = new TreeSet<>();
+        for (Method method : DepositCodes.class.getDeclaredMethods()) {
+            if (Modifier.isPublic(method.getModifiers())) {
+                Due.due(method.getName() + " is static", Modifier.isStatic(method.getModifiers()), false);
+                found.add(signature(method));
+            }
+        }
+        Due.due("the methods are the document's: " + found, found.equals(new TreeSet<>(Arrays.asList(FACE))), true);
+        Due.due("NONE", DepositCodes.NONE, -1);
+        int modifiers = DepositCodes.class.getModifiers();
+        Due.due("the class is public and final", Modifier.isPublic(modifiers) && Modifier.isFinal(modifiers), true);
+        Constructor<?>[] constructors = DepositCodes.class.getDeclaredConstructors();
+        Due.due("constructors", constructors.length, 1);
+        Due.due("the constructor is public", Modifier.isPublic(constructors[0].getModifiers()), true);
+        Due.due("the constructor's parameters", constructors[0].getParameterCount(), 0);
+    }
+
+    private static String signature(Method method) {
+        StringBuilder text = new StringBuilder(method.getReturnType().getName()).append(' ');
+        text.append(method.getName()).append('(');
+        String between = "";
+        for (Class<?> parameter : method.getParameterTypes()) {
+            text.append(between).append(parameter.getName());
+            between = ", ";
+        }
+        return text.append(')').toString();
+    }
+
+    private static void digitTellsItsException() throws Exception {
+        Class<?>[] told = DepositCodes.class.getMethod("digit", int.class).getExceptionTypes();
+        Due.due("digit's exceptions", told.length, 1);
+        Due.due("digit's exception", told.length == 1 && told[0] == ArrayIndexOutOfBoundsException.class, true);
+    }
+
+    private static void onlyTheFaceIsSeen() {
+        for (Method method : DepositCodes.class.getDeclaredMethods()) {
+            int modifiers = method.getModifiers();
+            boolean seen = Modifier.isPublic(modifiers) || Modifier.isPrivate(modifiers);
+            Due.due("method " + method.getName() + " is public or private", seen, true);
+        }
+        for (Field field : DepositCodes.class.getDeclaredFields()) {
+            boolean none = field.getName().equals("NONE");
+            Due.due("field " + field.getName(), none || Modifier.isPrivate(field.getModifiers()), true);
+        }
+        for (Class<?> inside : DepositCodes.class.getDeclaredClasses()) {
+            int modifiers = inside.getModifiers();
+            boolean open = Modifier.isPublic(modifiers) || Modifier.isProtected(modifiers);
+            Due.due(inside.getName() + " is not public", open, false);
+            Due.due(inside.getName() + " is static", Modifier.isStatic(modifiers), true);
+        }
+    }
+
+    private static void noPrivateMethodIsNamedLikeAPublicOne() {
+        Set<String> names = new TreeSet<>();
+        for (Method method : DepositCodes.class.getMethods()) {
+            if (method.getDeclaringClass() == DepositCodes.class) {
+                names.add(method.getName());
+            }
+        }
+        noneNamed(DepositCodes.class, names);
+        for (Class<?> inside : DepositCodes.class.getDeclaredClasses()) {
+            noneNamed(inside, names);
+        }
+    }
+
+    private static void noneNamed(Class<?> where, Set<String> names) {
+        for (Method method : where.getDeclaredMethods()) {
+            boolean own = !Modifier.isPublic(method.getModifiers());
+            Due.due(where.getName() + "." + method.getName(), own && names.contains(method.getName()), false);
+        }
+    }
+
+    private static void staticFieldsAreFinal() {
+        finalOnes(DepositCodes.class);
+        for (Class<?> inside : DepositCodes.class.getDeclaredClasses()) {
+            finalOnes(inside);
+        }
+    }
+
+    private static void finalOnes(Class<?> where) {
+        for (Field field : where.getDeclaredFields()) {
+            if (Modifier.isStatic(field.getModifiers())) {
+                Due.due(where.getName() + "." + field.getName(), Modifier.isFinal(field.getModifiers()), true);
+            }
+        }
+    }
+
+    private static void aNewObjectHasNothing() {
+        DepositCodes x = new DepositCodes();
+        Due.due("reason()", x.reason(), 0);
+        Due.dueNoDigit(x, 0);
+        Due.due("read()", x.read(), -1);
+        Due.due("back()", x.back(), -1);
+        Due.due("fraud(0)", x.fraud(0), -1);
+        Due.due("double2(0, 0)", x.double2(0, 0), -1);
+        Due.due("count(0, 0)", x.count(0, 0), -1);
+        Due.due("coupon(0)", x.coupon(0), -1);
+        Due.due("redeem(0, 0)", x.redeem(0, 0), false);
+        Due.due("full(0)", x.full(0, true), false);
+        Due.due("power(0)", x.power(0, true), false);
+        Due.due("join(0, 0)", x.join(0, 0), -1);
+        for (int shop = 0; shop < 100; shop++) {
+            Due.due("shop(" + shop + ")", x.shop(shop), 0);
+        }
+        for (int system = 0; system < 3; system++) {
+            Due.due("cleared(" + system + ")", x.cleared(system), 0);
+        }
+        Due.due("clear(0)", x.clear(0), 0);
+        Due.due("machine()", x.machine(), 0);
+        for (int shape = 0; shape < 8; shape++) {
+            Due.due("give", x.give(0, 0, shape, 0, 0), 0);
+            Due.due("reason() without spans", x.reason(), 4);
+        }
+    }
+
+    private static void objectsAreApart() {
+        DepositCodes one = new DepositCodes();
+        DepositCodes other = new DepositCodes();
+        one.machine();
+        one.shape(0, 0, 1);
+        one.give(0, 0, 0, 0, 0);
+        one.width(0, 1);
+        Due.due("machine() of the other", other.machine(), 0);
+        Due.due("give to the other", other.give(0, 0, 0, 0, 0), 0);
+        other.shape(0, 0, 1);
+        Due.due("give to the other", other.give(0, 0, 0, 0, 0), 1);
+    }
+}
