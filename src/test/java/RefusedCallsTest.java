@@ -4,8 +4,8 @@ import java.util.function.Consumer;
 import java.util.function.ToLongFunction;
 
 /**
- * "Such calls change nothing": each refused call, and each question, is made at one of two objects that are alike,
- * and both are then asked for all that an object can tell, by calls that also use it up.
+ * "Such calls change nothing": refused calls, and questions, are made at one of two objects that are alike; both are
+ * then asked for what an object can tell, also by calls that use it up.
  */
 public final class RefusedCallsTest {
     private static final int NONE = DepositCodes.NONE;
