@@ -1,3 +1,5 @@
+import java.util.function.Supplier;
+
 /** Compares answers with those that are due, and ends a test with exit code 1 if one differs. */
 final class Due {
     private static int checked = 0;
@@ -7,10 +9,15 @@ final class Due {
     }
 
     static void due(String call, long got, long want) {
+        due(() -> call, got, want);
+    }
+
+    /** For tests of very many calls: the text is made only where an answer is wrong. */
+    static void due(Supplier<String> call, long got, long want) {
         checked++;
         if (got != want) {
             wrong++;
-            System.out.println(call + " answered " + got + ", due is " + want);
+            System.out.println(call.get() + " answered " + got + ", due is " + want);
         }
     }
 

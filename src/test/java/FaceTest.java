@@ -1,12 +1,11 @@
 import java.lang.reflect.Constructor;
-import java.lang.reflect.Field;
 import java.lang.reflect.Method;
 import java.lang.reflect.Modifier;
 import java.util.Arrays;
 import java.util.Set;
 import java.util.TreeSet;
 
-/** The public face, promise 1, and the rules of LANGUAGE.md that the compiled class shows. */
+/** The public face, and promise 1. */
 public final class FaceTest {
     private static final String[] FACE = {
         "int back()", "int check(int, long)", "int clear(int)", "int coupon(int)", "int digit(int)",
@@ -20,9 +19,6 @@ public final class FaceTest {
     public static void main(String[] args) throws Exception {
         theFaceIsTheDocuments();
         digitTellsItsException();
-        onlyTheFaceIsSeen();
-        noPrivateMethodIsNamedLikeAPublicOne();
-        staticFieldsAreFinal();
         aNewObjectHasNothing();
         objectsAreApart();
         Due.end("FaceTest");
@@ -61,59 +57,6 @@ public final class FaceTest {
         Class<?>[] told = DepositCodes.class.getMethod("digit", int.class).getExceptionTypes();
         Due.due("digit's exceptions", told.length, 1);
         Due.due("digit's exception", told.length == 1 && told[0] == ArrayIndexOutOfBoundsException.class, true);
-    }
-
-    private static void onlyTheFaceIsSeen() {
-        for (Method method : DepositCodes.class.getDeclaredMethods()) {
-            int modifiers = method.getModifiers();
-            boolean seen = Modifier.isPublic(modifiers) || Modifier.isPrivate(modifiers);
-            Due.due("method " + method.getName() + " is public or private", seen, true);
-        }
-        for (Field field : DepositCodes.class.getDeclaredFields()) {
-            boolean none = field.getName().equals("NONE");
-            Due.due("field " + field.getName(), none || Modifier.isPrivate(field.getModifiers()), true);
-        }
-        for (Class<?> inside : DepositCodes.class.getDeclaredClasses()) {
-            int modifiers = inside.getModifiers();
-            boolean open = Modifier.isPublic(modifiers) || Modifier.isProtected(modifiers);
-            Due.due(inside.getName() + " is not public", open, false);
-            Due.due(inside.getName() + " is static", Modifier.isStatic(modifiers), true);
-        }
-    }
-
-    private static void noPrivateMethodIsNamedLikeAPublicOne() {
-        Set<String> names = new TreeSet<>();
-        for (Method method : DepositCodes.class.getMethods()) {
-            if (method.getDeclaringClass() == DepositCodes.class) {
-                names.add(method.getName());
-            }
-        }
-        noneNamed(DepositCodes.class, names);
-        for (Class<?> inside : DepositCodes.class.getDeclaredClasses()) {
-            noneNamed(inside, names);
-        }
-    }
-
-    private static void noneNamed(Class<?> where, Set<String> names) {
-        for (Method method : where.getDeclaredMethods()) {
-            boolean own = !Modifier.isPublic(method.getModifiers());
-            Due.due(where.getName() + "." + method.getName(), own && names.contains(method.getName()), false);
-        }
-    }
-
-    private static void staticFieldsAreFinal() {
-        finalOnes(DepositCodes.class);
-        for (Class<?> inside : DepositCodes.class.getDeclaredClasses()) {
-            finalOnes(inside);
-        }
-    }
-
-    private static void finalOnes(Class<?> where) {
-        for (Field field : where.getDeclaredFields()) {
-            if (Modifier.isStatic(field.getModifiers())) {
-                Due.due(where.getName() + "." + field.getName(), Modifier.isFinal(field.getModifiers()), true);
-            }
-        }
     }
 
     private static void aNewObjectHasNothing() {

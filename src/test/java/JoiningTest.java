@@ -144,7 +144,9 @@ public final class JoiningTest {
 
     private static void decimalsOfADouble() {
         DepositCodes x = Start.made(2);
-        long[] serials = {0, Start.serial(1), Start.serial(10), Start.serial(12345678901234567L), Start.serial(99999999999999999L)};
+        long[] serials = {
+            0, Start.serial(1), Start.serial(10), Start.serial(12345678901234567L), Start.serial(99999999999999999L),
+        };
         for (long serial : serials) {
             x.give(0, serial, 0, 0, 0);
             x.give(1, serial, 0, 0, 0);

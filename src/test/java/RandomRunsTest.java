@@ -1,12 +1,31 @@
+import java.util.Map;
 import java.util.Random;
+import java.util.Set;
+import java.util.TreeMap;
+import java.util.TreeSet;
 
-/** All promises: the same runs of 512 calls at the class and at the model, with ordinary and wild arguments. */
+/** All promises: runs of up to 512 calls in which all methods come mixed, each answer held against the model's. */
 public final class RandomRunsTest {
     private static final int RUNS = 3000;
-    private static final int CALLS = 512;
-    private static final int CALLS_BEFORE_LOOKING = 420;
+    private static final int MOST_CALLS = 512;
+    private static final long MONTH = 2592000L;
+    private static final String[] METHODS = {
+        "width", "read", "back", "digit", "check", "good", "machine", "shape", "full", "power", "give", "reason",
+        "count", "join", "double2", "mark", "coupon", "redeem", "shop", "clear", "cleared", "fraud",
+    };
+    private static final Model NUMBERS = new Model();
+    /** How often each method comes, by the theme of the run: all alike, bars, payments, doubles, money. */
+    private static final int[][] WEIGHTS = {
+        {9, 3, 3, 4, 3, 3, 2, 3, 3, 3, 9, 4, 4, 3, 4, 3, 4, 4, 3, 4, 4, 4},
+        {80, 6, 6, 18, 1, 1, 1, 1, 1, 1, 4, 1, 1, 1, 1, 1, 1, 1, 1, 1, 1, 1},
+        {2, 1, 1, 1, 1, 1, 1, 1, 1, 1, 150, 2, 2, 1, 2, 1, 2, 1, 1, 1, 1, 1},
+        {2, 1, 1, 1, 1, 1, 2, 1, 1, 1, 40, 3, 3, 3, 12, 1, 1, 1, 1, 1, 1, 6},
+        {2, 1, 1, 1, 1, 1, 2, 1, 2, 2, 30, 2, 2, 1, 2, 1, 9, 12, 6, 8, 10, 2},
+    };
+    private static final int ALL_ALIKE = 0;
+    private static final int PAYMENTS = 2;
     private static final int[] WILD_INTS = {
-        Integer.MIN_VALUE, -2, -1, 0, 1, 6, 7, 8, 21, 63, 64, 99, 100, 1000, 1001, 40000, 40001, 100000, 100001,
+        Integer.MIN_VALUE, -2, -1, 0, 1, 6, 7, 8, 21, 63, 64, 99, 100, 1000, 1001, 38580, 40000, 40001, 100000, 100001,
         Integer.MAX_VALUE,
     };
     private static final long[] WILD_LONGS = {
@@ -16,186 +35,195 @@ public final class RandomRunsTest {
     private static final String[] PATTERNS = {
         "3211", "2221", "2122", "1411", "1132", "1231", "1114", "1312", "1213", "3112",
     };
+    /** What runs of chance must have come upon, lest they look at nothing. */
+    private static final String[] MUST_COME = {
+        "width 0", "width 1", "read -1", "read 1", "read 14", "back -1", "back 1", "back 14", "digit -1", "digit 0",
+        "digit 1", "digit 2", "digit 3", "digit 4", "digit 5", "digit 6", "digit 7", "digit 8", "digit 9",
+        "check -1", "check 0", "check 9", "good 0", "good 1", "machine -1", "machine 0", "machine 5", "shape 0",
+        "shape 1", "full 0", "full 1", "power 0", "power 1", "give -1", "give 0", "give 1", "reason 0", "reason 1",
+        "reason 2", "reason 3", "reason 4", "reason 5", "reason 6", "reason 7", "count -1", "count 0", "count 9",
+        "join -1", "join 0", "join 1", "join 5", "double2 -1", "double2 0", "double2 9", "mark 0", "mark 1",
+        "coupon -1", "coupon 0", "coupon 9", "redeem 0", "redeem 1", "shop -1", "shop 0", "shop 25", "clear -1",
+        "clear 0", "clear 2", "clear 3", "cleared -25", "cleared 0", "cleared 25", "fraud -1", "fraud 0", "fraud 5",
+        "give at 200",
+    };
 
     private final Random random;
-    private final DepositCodes x = new DepositCodes();
-    private final Model model = new Model();
+    private final int theme;
     private final boolean wild;
-    private final int stems;
-    private int calls = 0;
+    private final long[] stems;
+    private final Both both;
+    private final Set<String> came;
+    private String row = "";
+    private int scale = 1;
+    private int place = 0;
     private int paid = 0;
 
-    private RandomRunsTest(int seed) {
+    private RandomRunsTest(int seed, Set<String> came) {
         random = new Random(seed);
-        wild = seed % 5 == 0;
-        stems = 3 + random.nextInt(seed % 3 == 0 ? 900 : 12);
+        theme = seed % WEIGHTS.length;
+        wild = seed % 3 == 0;
+        stems = new long[theme == PAYMENTS ? 60 + random.nextInt(900) : 1 + random.nextInt(15)];
+        for (int k = 0; k < stems.length; k++) {
+            stems[k] = someStem();
+        }
+        both = new Both("run " + seed);
+        this.came = came;
     }
 
     public static void main(String[] args) {
+        Set<String> came = new TreeSet<>();
+        Map<String, Integer> made = new TreeMap<>();
         for (int seed = 0; seed < RUNS; seed++) {
-            new RandomRunsTest(seed).run(seed % 4);
+            RandomRunsTest test = new RandomRunsTest(seed, came);
+            test.run();
+            test.both.made().forEach((method, times) -> made.merge(method, times, Integer::sum));
+        }
+        Due.due("methods that were called: " + made.keySet(), made.size(), METHODS.length);
+        for (String must : MUST_COME) {
+            Due.due("runs came upon " + must, came.contains(must), true);
         }
         stressBeyondTheLastCall();
         Due.end("RandomRunsTest");
     }
 
-    private void run(int focus) {
+    private void run() {
         begin();
-        int gives = focus == 3 ? 92 : 60;
-        while (calls < CALLS_BEFORE_LOOKING) {
-            int kind = random.nextInt(100);
-            if (focus == 0 && kind < gives) {
-                bars();
-            } else if (kind < gives) {
-                give();
-            } else if (kind < 70) {
-                numbers();
-            } else if (kind < 85) {
-                states();
-            } else {
-                money();
-            }
+        int length = random.nextInt(4) == 0 ? 100 + random.nextInt(MOST_CALLS - 99) : MOST_CALLS;
+        while (both.calls() < length) {
+            String method = METHODS[drawn(WEIGHTS[theme])];
+            came.add(method + " " + call(method));
         }
-        look();
+        if (theme == ALL_ALIKE && length == MOST_CALLS) {
+            Due.due("all methods come in one run: " + both.made(), both.made().size(), METHODS.length);
+        }
     }
 
+    /** Some machines and spans, so that the run is not of refused calls alone; one run in ten has none. */
     private void begin() {
+        if (random.nextInt(10) == 0) {
+            return;
+        }
         for (int k = random.nextInt(7); k > 0; k--) {
-            same("machine()", x.machine(), model.machine());
+            both.machine();
         }
         for (int shape = 0; shape < 3; shape++) {
-            same("shape", bit(x.shape(shape, 0, 50)), bit(model.shape(shape, 0, 50)));
+            both.shape(shape, 0, 50);
         }
     }
 
-    private void bars() {
-        if (random.nextInt(3) == 0) {
-            writeCode();
-        } else {
-            int k = anInt(64);
-            int v = anInt(5);
-            same("width(" + k + ", " + v + ")", bit(x.width(k, v)), bit(model.width(k, v)));
+    private int drawn(int[] weights) {
+        int all = 0;
+        for (int weight : weights) {
+            all += weight;
         }
-        if (random.nextBoolean()) {
-            same("read()", x.read(), model.read());
-        } else {
-            same("back()", x.back(), model.back());
+        int left = random.nextInt(all);
+        int k = 0;
+        while (left >= weights[k]) {
+            left -= weights[k];
+            k++;
         }
-        for (int k = -1; k < 2 + random.nextInt(14); k++) {
-            same("digit(" + k + ")", digitOr(k), model.digit(k));
-        }
+        return k;
     }
 
-    private void writeCode() {
-        StringBuilder row = new StringBuilder("111");
-        for (int k = random.nextInt(15); k > 0; k--) {
-            row.append(PATTERNS[random.nextInt(10)]);
-        }
-        row.append("222");
-        if (random.nextBoolean()) {
-            row.reverse();
-        }
-        int scale = 1 + random.nextInt(250);
-        for (int k = 0; k <= row.length() && k < 64; k++) {
-            int v = k == row.length() ? 0 : scale * (row.charAt(k) - '0');
-            same("width(" + k + ", " + v + ")", bit(x.width(k, v)), bit(model.width(k, v)));
-        }
+    private long call(String method) {
+        return switch (method) {
+            case "width" -> width();
+            case "read" -> both.read();
+            case "back" -> both.back();
+            case "digit" -> both.digit(anInt(random.nextInt(4) == 0 ? 15 : 3));
+            case "check" -> both.check(anInt(2), aLong());
+            case "good" -> good();
+            case "machine" -> both.machine();
+            case "shape" -> both.shape(anInt(8), anInt(20), anInt(100));
+            case "full" -> both.full(anInt(6), random.nextInt(4) == 0);
+            case "power" -> both.power(anInt(6), random.nextInt(4) != 0);
+            case "give" -> give();
+            case "reason" -> both.reason();
+            case "count" -> both.count(anInt(6), anInt(random.nextBoolean() ? 3 : 8));
+            case "join" -> join();
+            case "double2" -> both.double2(anInt(1 + random.nextInt(30)), anInt(22));
+            case "mark" -> mark();
+            case "coupon" -> both.coupon(anInt(6));
+            case "redeem" -> both.redeem(anInt(1 + random.nextInt(30)), anInt(4));
+            case "shop" -> both.shop(anInt(4));
+            case "clear" -> both.clear(anInt(4));
+            case "cleared" -> both.cleared(anInt(4));
+            case "fraud" -> both.fraud(anInt(1 + random.nextInt(40)));
+            default -> throw new IllegalArgumentException(method);
+        };
     }
 
-    private int digitOr(int k) {
-        try {
-            return x.digit(k);
-        } catch (ArrayIndexOutOfBoundsException e) {
-            return -1;
+    /** Most widths go on with a row that is a code, or nearly one, so that codes come up between other calls. */
+    private long width() {
+        if (random.nextInt(30) == 0) {
+            return both.width(anInt(64), anInt(5));
         }
+        if (place > row.length()) {
+            newRow();
+        }
+        int k = place;
+        place++;
+        return both.width(k, k < row.length() ? scale * (row.charAt(k) - '0') : 0);
     }
 
-    private void give() {
-        int machine = anInt(6);
-        long stem = random.nextInt(stems) * (random.nextInt(stems) == 0 ? 99999999999L : 1L);
-        long serial = wild && random.nextInt(9) == 0 ? aLong() : 10 * stem + model.check(0, stem);
-        serial += random.nextInt(15) == 0 ? 1 : 0;
-        int shape = anInt(random.nextInt(20) == 0 ? 9 : 3);
-        int weight = anInt(random.nextInt(20) == 0 ? 60 : 51);
-        long second = wild && random.nextInt(9) == 0 ? aLong() : random.nextInt(8000000);
-        String call = "give(" + machine + ", " + serial + ", " + shape + ", " + weight + ", " + second + ")";
-        int want = model.give(machine, serial, shape, weight, second);
-        same(call, x.give(machine, serial, shape, weight, second), want);
-        if (random.nextInt(4) == 0) {
-            same("reason() after " + call, x.reason(), model.reason());
+    private void newRow() {
+        StringBuilder text = new StringBuilder("111");
+        for (int k = random.nextInt(random.nextInt(4) == 0 ? 15 : 4); k > 0; k--) {
+            text.append(PATTERNS[random.nextInt(PATTERNS.length)]);
         }
-        paid += want == 1 ? 1 : 0;
+        text.append(random.nextInt(8) == 0 ? "221" : "222");
+        row = (random.nextBoolean() ? text : text.reverse()).toString();
+        scale = 1 + random.nextInt(250);
+        place = 0;
     }
 
-    private void numbers() {
+    private long good() {
         int kind = anInt(2);
-        long number = aLong();
-        same("check(" + kind + ", " + number + ")", x.check(kind, number), model.check(kind, number));
-        same("good(" + kind + ", " + number + ")", bit(x.good(kind, number)), bit(model.good(kind, number)));
+        long stem = someStem();
+        boolean made = random.nextBoolean() && both.calls() < MOST_CALLS - 1;
+        return both.good(kind, made ? 10 * stem + both.check(random.nextInt(2), stem) : aLong());
+    }
+
+    private long give() {
+        long second = wild && random.nextInt(9) == 0 ? aLong() : aSecond();
+        int shape = anInt(random.nextInt(20) == 0 ? 9 : 3);
+        int weight = anInt(random.nextInt(20) == 0 ? 120 : 51);
+        long answer = both.give(anInt(6), aSerial(), shape, weight, second);
+        if (answer == DepositCodes.NONE && paid == 200) {
+            came.add("give at 200");
+        }
+        paid += answer == 1 ? 1 : 0;
+        return answer;
+    }
+
+    private long aSerial() {
+        if (wild && random.nextInt(12) == 0) {
+            return aLong();
+        }
+        long stem = stems[random.nextInt(stems.length)];
+        return 10 * stem + NUMBERS.check(0, stem) + (random.nextInt(15) == 0 ? 1 : 0);
+    }
+
+    private long aSecond() {
+        long start = MONTH * (random.nextInt(9) == 0 ? 38580 : random.nextInt(3));
+        return switch (random.nextInt(4)) {
+            case 0 -> start;
+            case 1 -> start + (start == 0 ? 0 : -1);
+            default -> start + random.nextInt(1000000);
+        };
+    }
+
+    /** Joinings of the beginning would leave one set alone, so most of them wait for payments. */
+    private long join() {
+        int a = anInt(6);
+        return both.join(a, paid > 12 || random.nextInt(4) == 0 ? anInt(6) : a);
+    }
+
+    private long mark() {
+        long serial = aLong();
         long key = aLong();
-        long shown = random.nextBoolean() ? Model.markOf(number, key) : aLong();
-        boolean want = model.mark(number, key, shown);
-        same("mark(" + number + ", " + key + ", " + shown + ")", bit(x.mark(number, key, shown)), bit(want));
-    }
-
-    private void states() {
-        int machine = anInt(6);
-        boolean on = random.nextInt(4) == 0;
-        switch (random.nextInt(12)) {
-            case 0 -> same("machine()", x.machine(), model.machine());
-            case 1 -> same("full", bit(x.full(machine, on)), bit(model.full(machine, on)));
-            case 2 -> same("power", bit(x.power(machine, !on)), bit(model.power(machine, !on)));
-            case 3 -> told(anInt(8), anInt(20), anInt(100));
-            case 4 -> joined(machine, anInt(6));
-            default -> {
-                int shape = anInt(8);
-                same("count(" + machine + ", " + shape + ")", x.count(machine, shape), model.count(machine, shape));
-            }
-        }
-    }
-
-    private void told(int shape, int least, int most) {
-        same("shape", bit(x.shape(shape, least, most)), bit(model.shape(shape, least, most)));
-    }
-
-    private void joined(int a, int b) {
-        if (paid > 10 || random.nextInt(4) == 0) {
-            same("join(" + a + ", " + b + ")", x.join(a, b), model.join(a, b));
-        }
-    }
-
-    private void money() {
-        int machine = anInt(6);
-        int coupon = anInt(20);
-        int shop = anInt(4);
-        int month = anInt(5);
-        switch (random.nextInt(7)) {
-            case 0 -> same("coupon(" + machine + ")", x.coupon(machine), model.coupon(machine));
-            case 1 -> same("redeem", bit(x.redeem(coupon, shop)), bit(model.redeem(coupon, shop)));
-            case 2 -> same("shop(" + shop + ")", x.shop(shop), model.shop(shop));
-            case 3 -> same("clear(" + month + ")", x.clear(month), model.clear(month));
-            case 4 -> same("cleared(" + machine + ")", x.cleared(machine), model.cleared(machine));
-            case 5 -> same("fraud(" + coupon + ")", x.fraud(coupon), model.fraud(coupon));
-            default -> same("double2(" + coupon + ", " + shop + ")", x.double2(coupon, shop),
-                model.double2(coupon, shop));
-        }
-    }
-
-    /** Asks with the calls that are left, so that no answer behind the 512th call is looked at. */
-    private void look() {
-        while (calls < CALLS) {
-            int k = random.nextInt(1 + random.nextInt(170));
-            int what = random.nextInt(22);
-            int machine = random.nextInt(6);
-            int shape = random.nextInt(8);
-            switch (random.nextInt(4)) {
-                case 0 -> same("fraud(" + k + ")", x.fraud(k), model.fraud(k));
-                case 1 -> same("shop(" + shape + ")", x.shop(shape), model.shop(shape));
-                case 2 -> same("count(" + machine + ", " + shape + ")", x.count(machine, shape),
-                    model.count(machine, shape));
-                default -> same("double2(" + k + ", " + what + ")", x.double2(k, what), model.double2(k, what));
-            }
-        }
+        return both.mark(serial, key, random.nextBoolean() ? Model.markOf(serial, key) : aLong());
     }
 
     /** Answers are free there, but no call may throw by itself. */
@@ -211,8 +239,17 @@ public final class RandomRunsTest {
         Due.due("still there", x.count(0, 0) > 0, true);
     }
 
+    /** A stem of 1 to 17 decimals, so that its serial is a number. */
+    private long someStem() {
+        long stem = 0;
+        for (int k = 1 + random.nextInt(random.nextInt(3) == 0 ? 17 : 3); k > 0; k--) {
+            stem = 10 * stem + random.nextInt(10);
+        }
+        return stem;
+    }
+
     private int anInt(int below) {
-        if (random.nextInt(wild ? 6 : 60) == 0) {
+        if (random.nextInt(wild ? 12 : 60) == 0) {
             return WILD_INTS[random.nextInt(WILD_INTS.length)];
         }
         return random.nextInt(below);
@@ -225,14 +262,5 @@ public final class RandomRunsTest {
             case 2 -> random.nextLong();
             default -> (random.nextLong() >>> 1) % 1000000000000000000L;
         };
-    }
-
-    private void same(String call, long got, long want) {
-        calls++;
-        Due.due(call, got, want);
-    }
-
-    private static long bit(boolean answer) {
-        return answer ? 1L : 0L;
     }
 }
