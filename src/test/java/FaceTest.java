@@ -87,16 +87,51 @@ public final class FaceTest {
         }
     }
 
+    /** Both are made before one is used, and all that one can tell is asked of the other. */
     private static void objectsAreApart() {
         DepositCodes one = new DepositCodes();
         DepositCodes other = new DepositCodes();
-        one.machine();
-        one.shape(0, 0, 1);
-        one.give(0, 0, 0, 0, 0);
-        one.width(0, 1);
+        useAll(one);
+        dueNothing(other);
         Due.due("machine() of the other", other.machine(), 0);
-        Due.due("give to the other", other.give(0, 0, 0, 0, 0), 0);
+        Due.due("give to the other without a span", other.give(0, 17, 0, 0, 0), 0);
         other.shape(0, 0, 1);
-        Due.due("give to the other", other.give(0, 0, 0, 0, 0), 1);
+        Due.due("give to the other", other.give(0, 17, 0, 0, 0), 1);
+        Due.due("reason() of the other", other.reason(), 0);
+        Due.due("reason() of the one", one.reason(), 7);
+    }
+
+    private static void useAll(DepositCodes x) {
+        int[] row = {1, 1, 1, 3, 2, 1, 1, 1, 1, 1};
+        for (int k = 0; k < row.length; k++) {
+            x.width(k, row[k]);
+        }
+        Due.due("read()", x.read(), 1);
+        x.machine();
+        x.machine();
+        x.shape(0, 0, 1);
+        x.give(0, 17, 0, 0, 0);
+        x.give(1, 17, 0, 0, 0);
+        Due.due("join(0, 1)", x.join(0, 1), 1);
+        for (int k = 0; k < 3; k++) {
+            x.give(1, 17, 0, 0, 0);
+        }
+        Due.due("fraud(0)", x.fraud(0), 1);
+        Due.due("coupon(0)", x.coupon(0), 0);
+        Due.due("redeem(0, 0)", x.redeem(0, 0), true);
+        Due.due("clear(0)", x.clear(0), 2);
+        Due.due("cleared(0)", x.cleared(0), -25);
+    }
+
+    private static void dueNothing(DepositCodes x) {
+        Due.dueNoDigit(x, 0);
+        Due.due("read() of the other", x.read(), -1);
+        Due.due("reason() of the other", x.reason(), 0);
+        Due.due("count(0, 0) of the other", x.count(0, 0), -1);
+        Due.due("double2(0, 0) of the other", x.double2(0, 0), -1);
+        Due.due("fraud(0) of the other", x.fraud(0), -1);
+        Due.due("redeem(0, 1) of the other", x.redeem(0, 1), false);
+        Due.due("shop(0) of the other", x.shop(0), 0);
+        Due.due("cleared(0) of the other", x.cleared(0), 0);
     }
 }

@@ -350,7 +350,7 @@ public final class JoiningEdgesTest {
     private static void promise23OfTheSameSerial() {
         DepositCodes x = Start.made(1);
         for (int k = 0; k < 20; k++) {
-            x.give(0, Start.serial(k), 0, 0, 0);
+            x.give(0, Start.serial(k * 7 % 20), 0, 0, 0);
         }
         for (int round = 0; round < 2; round++) {
             for (int k = 0; k < 20; k++) {

@@ -9,7 +9,7 @@ import java.util.TreeMap;
 final class Model {
     private static final int NONE = -1;
     private static final BigInteger LARGEST = BigInteger.TEN.pow(18).subtract(BigInteger.ONE);
-    private static final List<String> PATTERNS =
+    static final List<String> PATTERNS =
         List.of("3211", "2221", "2122", "1411", "1132", "1231", "1114", "1312", "1213", "3112");
 
     /** One set of machines: each paid serial with the machine that it counts for. */

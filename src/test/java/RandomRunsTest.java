@@ -32,9 +32,6 @@ public final class RandomRunsTest {
         Long.MIN_VALUE, -99991, -1, 0, 1, 9, 10, 99991, 100000000000L, 100000000001L, 999999999999999999L,
         1000000000000000000L, Long.MAX_VALUE,
     };
-    private static final String[] PATTERNS = {
-        "3211", "2221", "2122", "1411", "1132", "1231", "1114", "1312", "1213", "3112",
-    };
     /** What runs of chance must have come upon, lest they look at nothing. */
     private static final String[] MUST_COME = {
         "width 0", "width 1", "read -1", "read 1", "read 14", "back -1", "back 1", "back 14", "digit -1", "digit 0",
@@ -170,7 +167,7 @@ public final class RandomRunsTest {
     private void newRow() {
         StringBuilder text = new StringBuilder("111");
         for (int k = random.nextInt(random.nextInt(4) == 0 ? 15 : 4); k > 0; k--) {
-            text.append(PATTERNS[random.nextInt(PATTERNS.length)]);
+            text.append(Model.PATTERNS.get(random.nextInt(Model.PATTERNS.size())));
         }
         text.append(random.nextInt(8) == 0 ? "221" : "222");
         row = (random.nextBoolean() ? text : text.reverse()).toString();

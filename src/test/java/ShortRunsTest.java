@@ -6,9 +6,6 @@ public final class ShortRunsTest {
     private static final long ONE = 17;
     private static final long OTHER = 24;
     private static final long MONTH = 2592000L;
-    private static final String[] PATTERNS = {
-        "3211", "2221", "2122", "1411", "1132", "1231", "1114", "1312", "1213", "3112",
-    };
 
     private record Step(String name, Consumer<Both> made) {
     }
@@ -137,7 +134,7 @@ public final class ShortRunsTest {
     }
 
     private static String group(int k) {
-        StringBuilder pattern = new StringBuilder(PATTERNS[k % 10]);
+        StringBuilder pattern = new StringBuilder(Model.PATTERNS.get(k % 10));
         return (k < 10 ? pattern : pattern.reverse()).toString();
     }
 
